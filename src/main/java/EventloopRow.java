@@ -20,7 +20,8 @@ public final class EventloopRow {
     private static final int ASKING = 1;
     private static final int SETTING = 2;
     private static final int DELETING = 3;
-    private static final int NOT_TOLD = Integer.MIN_VALUE;
+    // Beyond every value that can be told.
+    private static final int NOT_TOLD = 1000000;
 
     private static final int MOST_FUNCTIONS = 8;
     private static final int MOST_INSTRUCTIONS = 16;
@@ -1109,7 +1110,9 @@ public final class EventloopRow {
             }
             if (number == blocks.length) {
                 TimerBlock[] more = new TimerBlock[number * 2];
-                System.arraycopy(blocks, 0, more, 0, number);
+                for (int i = 0; i < number; i++) {
+                    more[i] = blocks[i];
+                }
                 blocks = more;
             }
             if (blocks[number] == null) {

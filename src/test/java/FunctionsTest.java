@@ -188,10 +188,30 @@ public final class FunctionsTest {
         Code.traces("T", Code.turned("v 1 5; T 1; l 1"), 20005);
         Code.traces("b", Code.turned("b 0 4; v 1 5; T 1; l 1; l 0; T 0"), 5, 20005);
         Code.traces("b twice", Code.turned("b 0 5; b 0 4; v 0 1; T 0; + 0 0; l 0; + 0 0; T 0"), 2, 4, 20008);
-        Code.traces("e", Code.turned("b 0 5; b 0 4; e; v 0 1; T 0; l 0"), 1);
+        Code.traces("e", Code.turned("b 0 6; b 0 5; e; v 0 1; T 0; l 3; l 0"), 1);
+        manyHandlers();
         Code.traces("e without one", Code.turned("e; v 0 1; e; T 0"), 20001);
         Code.traces("a handler behind the last one", Code.turned("b 0 16; v 0 1; T 0"));
         Code.traces("a handler in the one that calls", Code.turned("b 0 4; c 1 1; w 1; l 3; l 0", "v 0 6; T 0"), 6);
+    }
+
+    /** As many handlers as told are put on the row, and each is taken off once, the latest one first. */
+    private static void manyHandlers() {
+        for (int many = 0; many <= 40; many++) {
+            EventloopRow counted = Code.turned("v 0 " + (1 - many) + "; v 1 1; " + (many == 0 ? "j 0 7" : "e") + "; b 0 8;"
+                    + "z 0 7; + 0 1; j 0 3; T 2; l 3; j 0 7");
+            Check.same("handlers " + many, counted.traced(), many + 1);
+            Check.same("handlers " + many, counted.traceAt(many), 20000);
+        }
+        EventloopRow row = new EventloopRow();
+        Code.function(row, "b 0 2; b 0 2; l 0");
+        Code.function(row, "v 0 6; T 0");
+        Code.function(row, "b 0 5; b 0 4; v 0 1; T 0; l 0; + 0 0; l 0; T 0");
+        for (int function : new int[] {0, 1, 2}) {
+            row.post(function);
+        }
+        row.turn(3);
+        Code.traces("handlers of an earlier run are gone", row, 0, 20006, 1, 2, 4, 20004);
     }
 
     private static void objects() {
@@ -289,6 +309,28 @@ public final class FunctionsTest {
         row.turn(4);
         Code.traces("93, behind 92 and 95", row, 0, 0, 0, 20093, 20093, 20093, 20093);
         Check.same("60", row.promises(), 60);
+        for (int room = 0; room <= 6; room++) {
+            roomForAll(room);
+        }
+    }
+
+    /** 'A' with two promises and two numbers needs three new ones, and takes none if there are fewer. */
+    private static void roomForAll(int room) {
+        EventloopRow row = new EventloopRow();
+        Code.function(row, "p 0; p 0; p 0; p 0; p 0; p 0; p 0; p 0; p 0; p 0; p 0");
+        Code.function(row, "p 0");
+        Code.function(row, "p 0; p 3; A 0 0 3");
+        for (int i = 0; i < 5; i++) {
+            row.post(0);
+        }
+        for (int i = room; i < 3; i++) {
+            row.post(1);
+        }
+        row.post(2);
+        row.turn(10);
+        int before = 55 + Math.max(0, 3 - room) + 2;
+        Check.same("room for " + (60 - before), row.promises(), before <= 57 ? before + 3 : before);
+        Check.same("room for " + (60 - before), row.traced(), before <= 57 ? 0 : 1);
     }
 
     private static void waits() {
@@ -302,6 +344,8 @@ public final class FunctionsTest {
         Code.traces("w of a rejected one", row, 20006);
         row = Code.turned("b 0 5; p 2; v 0 6; X 2 0; w 2; l 0; l 2; T 0");
         Code.traces("w of a rejected one with a handler", row, 6, 10000, 20006);
+        row = Code.turned("p 0; v 1 6; X 0 1; b 0 5; w 0; w 0; l 0; w 2; l 0; w 0; l 0");
+        Code.traces("a number behind a rejected one", row, 6, 6, 6);
         row = Code.turned("p 0; w 0; l 0");
         Code.traces("w for ever", row);
         Check.same("no job", row.jobs(), 0);
@@ -332,6 +376,9 @@ public final class FunctionsTest {
         EventloopRow row = Code.turned("p 0; p 1; R 0 1; v 2 5; R 0 2; X 0 2; h 0 1 -1; R 1 2", "l 0");
         Code.traces("R with a promise", row, 5);
         Check.same("jobs: put, alike, reaction", row.jobs(), 3);
+        row = Code.turned("p 0; p 1; v 2 3; X 0 2; R 0 1; R 0 2; X 0 1");
+        Code.traces("R of a rejected one", row, 20092, 30000);
+        Check.same("no job", row.jobs(), 0);
         row = Code.turned("p 0; R 0 0; w 0; l 0");
         Code.traces("R with itself", row, 20094);
         row = Code.turned("p 0; v 1 3; R 0 1; R 0 0; X 0 1; v 1 4; R 0 1; w 0; l 0");

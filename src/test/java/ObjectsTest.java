@@ -286,10 +286,17 @@ public final class ObjectsTest {
         Check.sign("10: the chain keeps", row.has(0, 3), 'y');
         row.closeObject(0);
         Check.sign("10: of a closed one", row.delete(0, 3), 'y');
+        Check.sign("10: deleted already", row.delete(0, 3), 'y');
+        Check.sign("10: closed, so it stays away", row.set(0, 3, 1), 'n');
         Check.sign("10: deleted", row.has(0, 3), 'n');
         Check.sign("10: not configured", row.delete(0, 4), 'n');
         Check.sign("10: still there", row.has(0, 4), 'y');
         Check.same("10: listed", row.keys(0), 1);
+        for (int key : new int[] {0, 9, 10, 19}) {
+            row.set(1, key, 5);
+            row.delete(1, key);
+            Check.sign("10: the edges of the keys", row.has(1, key), 'n');
+        }
     }
 
     private static void closeObject() {
@@ -483,7 +490,7 @@ public final class ObjectsTest {
         row.tell(1, 's', 0);
         Check.sign("3: the answer behind", row.set(2, 7, 1), 'n');
         row.tell(2, 'd', 1);
-        Check.sign("3: a rejected promise behind", row.delete(2, 0), 'T');
+        Check.sign("3: what the plain one keeps", row.delete(2, 0), 'T');
         row.tell(2, 'h', 1);
         row.tell(2, 's', 0);
         row.revoke(1);

@@ -7,6 +7,7 @@ public final class RoomTest {
 
     public static void main(String[] args) {
         room("jobs", 1 << 18, "t 0 0; q 0 1; q 0 1; q 0 1; q 0 1; j 0 1", "w 0");
+        room("runs that end", 1 << 18, "t 0 0; q 0 1; q 0 1; q 0 1; q 0 1; q 0 1; q 0 1; q 0 1; q 0 1", "w 0; x 0");
         room("handlers", 1 << 18, "t 0 0; b 0 1; b 0 1; b 0 1; b 0 1; j 0 1");
         room("waits", 1 << 18, "t 0 0; q 0 1; w 0; j 0 1", "w 0; j 0 0");
         room("calls that wait", 1 << 18, "t 0 0; c 0 1; w 0; b 0 4; j 0 1", "w 0; T 0");

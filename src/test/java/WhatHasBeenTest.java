@@ -10,6 +10,7 @@ public final class WhatHasBeenTest {
         time();
         timers();
         manyTimers();
+        timersInOrder();
         traced();
         traceAt();
         promises();
@@ -95,6 +96,37 @@ public final class WhatHasBeenTest {
         Check.same("21: those that are left", row.timers(), set % 10);
         Check.same("22: each has traced", row.traced() - before, set - set % 10);
         Check.yes("32: isSound", row.isSound());
+    }
+
+    /** Timers that are set with falling, rising and equal delays run in the order of the model. */
+    private static void timersInOrder() {
+        EventloopRow row = new EventloopRow();
+        Model model = new Model();
+        String[] functions = {
+            "v 0 9000; v 1 -137; t 0 3; + 0 1; t 0 4; + 0 1; t 0 5; + 0 1; t 0 6; + 0 1; j 0 2",
+            "v 0 11; v 1 401; t 0 3; + 0 1; t 0 4; + 0 1; t 0 5; + 0 1; t 0 6; + 0 1; j 0 2",
+            "v 0 5000; v 1 -71; t 0 3; + 0 1; t 0 4; + 0 1; t 1 5; + 1 1; j 0 2",
+            "v 0 3; l 0", "v 0 4; l 0", "v 0 5; l 0; v 0 33; t 0 6", "v 0 6; l 0"};
+        for (int i = 0; i < functions.length; i++) {
+            Code.function(row, functions[i]);
+            model.addFunction();
+            for (String line : functions[i].split("; ")) {
+                String[] words = (line + " 0 0").split(" ");
+                model.add(i, words[0].charAt(0), Integer.parseInt(words[1]), Integer.parseInt(words[2]), 0);
+            }
+        }
+        for (int function : new int[] {0, 1, 2, 1}) {
+            row.post(function);
+            model.post(function);
+        }
+        for (int i = 0; i < 500; i++) {
+            Check.same("21: turn " + i, row.turn(1), model.turn(1));
+            Check.same("20: time " + i, row.time(), model.time());
+            Check.same("21: timers " + i, row.timers(), model.timers());
+        }
+        for (int i = 0; i < 400; i++) {
+            Check.same("20: the order, traceAt(" + i + ")", row.traceAt(i), model.traceAt(i));
+        }
     }
 
     private static void traced() {

@@ -26,6 +26,14 @@ final class Check {
         }
     }
 
+    static void text(String what, String got, String want) {
+        checked++;
+        if (!got.equals(want)) {
+            wrong++;
+            System.out.println(what + " answered " + got + ", due is " + want);
+        }
+    }
+
     static void yes(String what, boolean got) {
         same(what, got ? 1 : 0, 1);
     }

@@ -23,8 +23,13 @@ final class Code {
         }
     }
 
-    /** A language with these functions; the function 0 is posted and one turn is done. */
-    static EventloopRow turned(String... texts) {
+    /** The begin of a function, seven instructions, by which r0 becomes 2^exponent; r1 becomes 0, and r2 1. */
+    static String twoTo(int exponent) {
+        return "v 0 8192; v 1 " + (13 - exponent) + "; v 2 1; z 1 7; + 0 0; + 1 2; j 0 3;";
+    }
+
+    /** A language with these functions. */
+    static EventloopRow language(String... texts) {
         EventloopRow row = new EventloopRow();
         for (int i = 0; i < texts.length; i++) {
             row.addFunction();
@@ -32,6 +37,12 @@ final class Code {
         for (int i = 0; i < texts.length; i++) {
             fill(row, i, texts[i]);
         }
+        return row;
+    }
+
+    /** A language with these functions; the function 0 is posted and one turn is done. */
+    static EventloopRow turned(String... texts) {
+        EventloopRow row = language(texts);
         row.post(0);
         row.turn(1);
         return row;

@@ -99,17 +99,19 @@ public final class FunctionEdgesTest {
     /** Each with at most 16 instructions, numbered from 0. */
     private static void mostInstructions() {
         EventloopRow row = new EventloopRow();
-        for (int function = 0; function < 2; function++) {
+        for (int function = 0; function < 8; function++) {
             row.addFunction();
             for (int place = 0; place < 8; place++) {
                 Check.same("place", row.add(function, 'v', 0, 10 * function + place, 0), 2 * place);
                 Check.same("place", row.add(function, 'l', 0, 0, 0), 2 * place + 1);
             }
+            row.post(function);
         }
-        row.post(0);
-        row.post(1);
-        row.turn(2);
-        Code.traces("all 16, and none of the next function", row, 0, 1, 2, 3, 4, 5, 6, 7, 10, 11, 12, 13, 14, 15, 16, 17);
+        row.turn(8);
+        for (int i = 0; i < 64; i++) {
+            Check.same("all 16 of each function", row.traceAt(i), 10 * (i / 8) + i % 8);
+        }
+        Check.same("all 16 of each function", row.traced(), 64);
         Check.number("all 16", row.meanInstructions(), 16);
     }
 
@@ -138,9 +140,7 @@ public final class FunctionEdgesTest {
 
     /** r(a) plus r(b), as ints. */
     private static void sumsBeyondTheInts() {
-        // 8192 doubled 17 times is 2^30.
-        EventloopRow row = Code.turned("v 0 8192; v 1 -17; v 2 1; z 1 7; + 0 0; + 1 2; j 0 3;"
-                + "v 1 -1; m 3 0; + 3 1; + 3 0; l 3; + 3 2; l 3; + 3 1; l 3");
+        EventloopRow row = Code.turned(Code.twoTo(30) + "v 1 -1; m 3 0; + 3 1; + 3 0; l 3; + 3 2; l 3; + 3 1; l 3");
         Code.traces("over the edge and back", row, Integer.MAX_VALUE, Integer.MIN_VALUE, Integer.MAX_VALUE);
         Code.traces("r(b) stays", Code.turned("v 0 9999; v 1 -9999; + 0 1; l 0; l 1; + 1 1; l 1"), 0, -9999, -19998);
     }
@@ -162,7 +162,7 @@ public final class FunctionEdgesTest {
         Code.traces("-1", Code.turned("v 0 -1; z 0 3; l 0"), -1);
         Code.traces("the promise 0", Code.turned("p 0; z 0 3; l 0"), 10000);
         Code.traces("an int that has become 0", Code.turned("v 0 5; v 1 -5; + 0 1; z 0 5; l 0; l 1"), -5);
-        EventloopRow wrapped = Code.turned("v 0 8192; v 1 -19; v 2 1; z 1 7; + 0 0; + 1 2; j 0 3; z 0 9; l 2; l 0");
+        EventloopRow wrapped = Code.turned(Code.twoTo(32) + "z 0 9; l 2; l 0");
         Code.traces("2^32 is 0 as an int", wrapped, 0);
         Code.traces("to itself and out", Code.turned("v 0 1; z 0 1; z 3 16; l 0"));
     }
@@ -192,12 +192,12 @@ public final class FunctionEdgesTest {
 
     /** The latest handler is taken off the row, and the function goes on there, with what was thrown in r0. */
     private static void handlersInTheirOrder() {
-        Code.traces("the latest one first", Code.turned("b 0 8; b 0 6; v 0 1; T 0; l 3; l 3; l 0; T 3; l 0; v 1 7; T 1"),
-                1, 0, 20007);
+        Code.traces("the latest one first",
+                Code.turned("b 0 8; b 0 6; v 0 1; T 0; l 3; l 3; l 0; T 3; l 0; v 1 7; T 1"), 1, 0, 20007);
         Code.traces("one that throws itself", Code.turned("b 0 7; b 0 4; v 1 5; T 1; + 1 1; T 1; l 3; l 0"), 10);
         Code.traces("a handler at 0", Code.turned("z 1 2; j 0 5; v 1 4; b 0 0; T 1; l 0"), 4);
-        Code.traces("the other registers stay", Code.turned("v 1 1; v 2 2; v 3 3; b 0 6; v 0 9; T 3; l 0; l 1; l 2; l 3"),
-                3, 1, 2, 3);
+        Code.traces("the other registers stay",
+                Code.turned("v 1 1; v 2 2; v 3 3; b 0 6; v 0 9; T 3; l 0; l 1; l 2; l 3"), 3, 1, 2, 3);
         Code.traces("a thrown 0", Code.turned("b 0 3; v 0 7; T 1; l 0"), 0);
         Code.traces("a row of 7", Code.turned("b 0 8; b 0 8; b 0 8; b 0 8; b 0 8; b 0 8; b 0 8; T 3; l 0; T 3"),
                 0, 0, 0, 0, 0, 0, 0, 20000);
@@ -239,8 +239,7 @@ public final class FunctionEdgesTest {
         row.addProxy(0);
         row.addObject(1);
         row.addObject(0);
-        Code.function(row, "v 0 8192; v 1 -18; v 2 1; z 1 7; + 0 0; + 1 2; j 0 3; s 0 0 0; g 1 2 0; l 1; s 0 3 1; v 2 -1;"
-                + "+ 1 2; s 1 1 0");
+        Code.function(row, Code.twoTo(31) + "s 0 0 0; g 1 2 0; l 1; s 0 3 1; v 2 -1; + 1 2; s 1 1 0");
         run(row, 0);
         Code.traces("the least int", row, Integer.MIN_VALUE);
         Check.same("of an object with a chain", row.get(3, 1), Integer.MIN_VALUE);
@@ -335,8 +334,8 @@ public final class FunctionEdgesTest {
     /** One that needs a number where there is a promise, or the other way round, 92. */
     private static void wrongKinds() {
         // r0 is a promise, r1 is 1, r2 is another promise.
-        for (String wrong : new String[] {"+ 0 1", "+ 1 0", "+ 0 2", "+ 0 0", "T 0", "s 0 0 3", "R 1 1", "R 1 0", "X 1 1",
-            "X 1 0", "X 0 2", "X 0 0", "h 1 -1 -1", "h 1 0 0", "h 3 -1 0", "t 0 0", "t 2 0"}) {
+        for (String wrong : new String[] {"+ 0 1", "+ 1 0", "+ 0 2", "+ 0 0", "T 0", "s 0 0 3", "R 1 1", "R 1 0",
+            "X 1 1", "X 1 0", "X 0 2", "X 0 0", "h 1 -1 -1", "h 1 0 0", "h 3 -1 0", "t 0 0", "t 2 0"}) {
             EventloopRow row = new EventloopRow();
             row.addObject(-1);
             Code.function(row, "p 0; p 2; v 1 1; b 0 7; " + wrong + "; v 0 5; j 0 8; l 0; l 1; l 2");
@@ -348,8 +347,9 @@ public final class FunctionEdgesTest {
     }
 
     private static void rightKinds() {
-        for (String right : new String[] {"+ 1 3", "s 1 0 3", "R 0 1", "R 0 2", "X 0 1", "h 0 -1 -1", "t 1 0", "l 0", "l 1",
-            "m 1 0", "m 0 1", "z 0 9", "z 1 9", "w 1", "A 0 0 3", "A 1 0 0", "A 1 1 1", "c 0 1", "q 0 1", "g 0 0 3"}) {
+        for (String right : new String[] {"+ 1 3", "s 1 0 3", "R 0 1", "R 0 2", "X 0 1", "h 0 -1 -1", "t 1 0", "l 0",
+            "l 1", "m 1 0", "m 0 1", "z 0 9", "z 1 9", "w 1", "A 0 0 3", "A 1 0 0", "A 1 1 1", "c 0 1", "q 0 1",
+            "g 0 0 3"}) {
             EventloopRow row = new EventloopRow();
             row.addObject(-1);
             row.addFunction();
@@ -419,7 +419,7 @@ public final class FunctionEdgesTest {
         Code.traces("all that wait within one another", row, traceOfWaits());
     }
 
-    /** The 30th run has thrown 96; it is the first one that goes on, and the others hold the promise of the next one. */
+    /** The 30th run has thrown 96, and goes on first; the others hold the promise of the one they called. */
     private static int[] traceOfWaits() {
         int[] due = new int[58];
         for (int i = 0; i < due.length; i++) {
@@ -520,7 +520,7 @@ public final class FunctionEdgesTest {
         Code.traces("the promise of a reaction", row, 20094);
     }
 
-    /** With another promise, a job is added that puts reactions on it, by which this one is fulfilled or rejected alike. */
+    /** With another promise, a job puts reactions on that one, by which this one is fulfilled or rejected alike. */
     private static void resolvedWithAnother() {
         for (char letter : new char[] {'R', 'X'}) {
             char due = letter == 'R' ? 'f' : 'r';
@@ -583,7 +583,7 @@ public final class FunctionEdgesTest {
         Code.traces("rejected", row, 7, 2, 1, 2);
     }
 
-    /** It runs with what the promise has in r0; the new promise is resolved with its end, or rejected with what it ends by. */
+    /** It runs with what the promise has in r0; by its end the new promise is resolved or rejected. */
     private static void reactionsWithFunctions() {
         EventloopRow row = Code.turned("p 0; v 1 7; R 0 1; h 0 1 2; w 0; l 0", "l 0; + 0 0; x 0", "v 0 1; x 0");
         Code.traces("fulfilled, ends with", row, 7, 14);
@@ -670,7 +670,7 @@ public final class FunctionEdgesTest {
         Check.sign("a promise it ends with is lost", row.stateOf(0), 'w');
         row = Code.turned("c 0 1; w 0; T 3", "v 0 4; T 0");
         Code.traces("with the number of the one it waits for", row, 20004);
-        row = Code.turned("v 0 8192; v 1 -17; v 2 1; z 1 7; + 0 0; + 1 2; j 0 3; v 1 -1; + 1 0; + 0 1; T 0");
+        row = Code.turned(Code.twoTo(30) + "v 1 -1; + 1 0; + 0 1; T 0");
         Code.traces("20000 plus the number, as ints", row, 20000 + Integer.MAX_VALUE);
     }
 
@@ -709,7 +709,7 @@ public final class FunctionEdgesTest {
     }
 
     private static void sumOfAll() {
-        EventloopRow row = Code.turned("v 0 8192; v 1 -18; v 2 1; z 1 7; + 0 0; + 1 2; j 0 3; v 1 -1; A 3 0 1; w 3; l 3");
+        EventloopRow row = Code.turned(Code.twoTo(31) + "v 1 -1; A 3 0 1; w 3; l 3");
         Code.traces("the sum is an int", row, Integer.MAX_VALUE);
     }
 }

@@ -198,8 +198,8 @@ public final class FunctionsTest {
     /** As many handlers as told are put on the row, and each is taken off once, the latest one first. */
     private static void manyHandlers() {
         for (int many = 0; many <= 40; many++) {
-            EventloopRow counted = Code.turned("v 0 " + (1 - many) + "; v 1 1; " + (many == 0 ? "j 0 7" : "e") + "; b 0 8;"
-                    + "z 0 7; + 0 1; j 0 3; T 2; l 3; j 0 7");
+            EventloopRow counted = Code.turned("v 0 " + (1 - many) + "; v 1 1; " + (many == 0 ? "j 0 7" : "e")
+                    + "; b 0 8; z 0 7; + 0 1; j 0 3; T 2; l 3; j 0 7");
             Check.same("handlers " + many, counted.traced(), many + 1);
             Check.same("handlers " + many, counted.traceAt(many), 20000);
         }
@@ -233,7 +233,8 @@ public final class FunctionsTest {
 
     /** What an instruction that is behind a handler throws: 92 where a kind is wrong. */
     private static void kinds() {
-        for (String wrong : new String[] {"+ 0 1", "+ 1 0", "T 0", "s 0 0 0", "R 1 0", "X 1 1", "X 0 0", "h 1 -1 -1", "t 0 1"}) {
+        for (String wrong : new String[] {"+ 0 1", "+ 1 0", "T 0", "s 0 0 0", "R 1 0", "X 1 1", "X 0 0", "h 1 -1 -1",
+            "t 0 1"}) {
             EventloopRow row = new EventloopRow();
             row.addObject(-1);
             row.addFunction();
@@ -248,7 +249,8 @@ public final class FunctionsTest {
     }
 
     private static void missing() {
-        for (String wrong : new String[] {"h 0 1 -1", "h 0 -1 1", "h 1 7 7", "c 0 7", "q 0 1", "t 0 1", "g 0 0 0", "s 0 0 0"}) {
+        for (String wrong : new String[] {"h 0 1 -1", "h 0 -1 1", "h 1 7 7", "c 0 7", "q 0 1", "t 0 1", "g 0 0 0",
+            "s 0 0 0"}) {
             EventloopRow row = Code.turned("p 0; " + wrong);
             Code.traces("95 of " + wrong, row, 20095);
             Check.same("95 changes nothing", row.promises() + row.jobs() + row.timers(), 1);

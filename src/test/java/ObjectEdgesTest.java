@@ -523,7 +523,7 @@ public final class ObjectEdgesTest {
         Check.fails(what + ": rights", FAULT, () -> row.rights(proxy, KEY));
     }
 
-    /** If it is revoked, all that is done with it is the fault 'T', with answers and without; its target is as before. */
+    /** If it is revoked, all that is done with it is the fault 'T', with answers and without. */
     private static void revoked() {
         for (int told = 0; told < 2; told++) {
             EventloopRow row = new EventloopRow();

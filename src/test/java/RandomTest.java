@@ -13,6 +13,11 @@ public final class RandomTest {
     private static final String LETTERS = "v+mlzjTbegspRXhcqtwAx";
     private static final String USUAL = "vvv+mllljTbbepppRRRRXXhhhhhcccccqqtwwwwwwwAAAxxzgs";
 
+    // What later calls on an object answer is free.
+    private static final int MOST_CALLS = 512;
+    private static final String[] FIGURES = {"time", "timers", "traced", "promises", "unhandled", "late", "jobs",
+        "waitingShare", "meanInstructions", "isSound"};
+
     private final Random random;
     private final EventloopRow row = new EventloopRow();
     private final Model model = new Model();
@@ -66,7 +71,7 @@ public final class RandomTest {
     }
 
     private Object call(String name, Object... numbers) throws ReflectiveOperationException {
-        if (differs) {
+        if (differs || calls.size() == MOST_CALLS) {
             return null;
         }
         StringBuilder text = new StringBuilder(name);
@@ -126,25 +131,24 @@ public final class RandomTest {
                 case 18 -> call("rights", object, key);
                 default -> call("keyAt", object, within(0, 6));
             }
-            if (i % 20 == 19) {
-                lookAtObjects(objects);
-            }
+        }
+        call("isSound");
+        int first = random.nextInt(12);
+        for (int i = 0; i < objects; i++) {
+            lookAtObject((first + i) % objects);
         }
     }
 
-    private void lookAtObjects(int objects) throws ReflectiveOperationException {
-        for (int object = 0; object < objects; object++) {
-            Object keys = call("keys", object);
-            for (int i = 0; keys instanceof Integer && i < (Integer) keys; i++) {
-                call("keyAt", object, i);
-            }
-            for (int key = 0; key < 20; key++) {
-                call("get", object, key);
-                call("has", object, key);
-                call("rights", object, key);
-            }
+    private void lookAtObject(int object) throws ReflectiveOperationException {
+        Object keys = call("keys", object);
+        for (int i = 0; keys instanceof Integer && i < (Integer) keys; i++) {
+            call("keyAt", object, i);
         }
-        call("isSound");
+        for (int key = 0; key < 20; key++) {
+            call("get", object, key);
+            call("has", object, key);
+            call("rights", object, key);
+        }
     }
 
     private int numberOf(char letter, int functions) {
@@ -184,22 +188,40 @@ public final class RandomTest {
                 call("post", within(0, functions - 1));
             }
             call("turn", random.nextInt(4) == 0 ? within(1, 10) : 1);
-            lookAtRuns();
+            lookAtOne();
         }
-        for (int i = 0; i <= 400; i++) {
-            call("traceAt", i);
+        boolean traceFirst = random.nextBoolean();
+        if (traceFirst) {
+            lookAtTrace();
+        }
+        for (String name : FIGURES) {
+            call(name);
+        }
+        for (int promise = -1; promise <= model.promises(); promise++) {
+            call("stateOf", promise);
+            call("numberOf", promise);
+        }
+        if (!traceFirst) {
+            lookAtTrace();
         }
     }
 
-    private void lookAtRuns() throws ReflectiveOperationException {
-        for (String name : new String[] {"time", "timers", "traced", "promises", "unhandled", "late", "jobs",
-            "waitingShare", "meanInstructions", "isSound"}) {
-            call(name);
+    private void lookAtOne() throws ReflectiveOperationException {
+        for (int i = 0; i < 4; i++) {
+            call(FIGURES[random.nextInt(FIGURES.length)]);
         }
-        call("traceAt", (int) Math.min(399, row.traced() - 1));
-        for (int promise = -1; promise <= row.promises(); promise++) {
-            call("stateOf", promise);
-            call("numberOf", promise);
+        call("traceAt", (int) Math.min(399, model.traced() - 1));
+        int promise = within(0, Math.max(0, model.promises() - 1));
+        call("stateOf", promise);
+        call("numberOf", promise);
+    }
+
+    /** All of it if it is short, or a part of it. */
+    private void lookAtTrace() throws ReflectiveOperationException {
+        int most = (int) Math.min(400, model.traced());
+        int first = most > 100 ? random.nextInt(most - 60) : 0;
+        for (int i = first; i <= most; i++) {
+            call("traceAt", i);
         }
     }
 }

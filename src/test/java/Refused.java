@@ -156,8 +156,8 @@ final class Refused {
     }
 
     private static void figures(EventloopRow row, StringBuilder answers, int most) {
-        IntSupplier[] calls = {() -> (int) row.traced(), row::timers, row::promises, row::time, row::unhandled, row::late,
-            row::jobs, () -> Float.floatToIntBits(row.waitingShare()),
+        IntSupplier[] calls = {() -> (int) row.traced(), row::timers, row::promises, row::time, row::unhandled,
+            row::late, row::jobs, () -> Float.floatToIntBits(row.waitingShare()),
             () -> Double.hashCode(row.meanInstructions()), () -> row.isSound() ? 1 : 0, () -> row.turn(1)};
         for (int i = 0; i < most && i < calls.length; i++) {
             note(answers, calls[i]);

@@ -86,8 +86,8 @@ public final class RefusedTest {
                         row -> row.tell(1, what, answer));
             }
             for (int answer : what == 'g' ? new int[] {-9999, 0, 9999} : new int[] {0, 1}) {
-                boolean before = what == 'g' || what == 'd';
-                Check.same("4: " + what + " " + answer, Languages.mixed().tell(2, what, answer) ? 1 : 0, before ? 1 : 0);
+                int before = what == 'g' || what == 'd' ? 1 : 0;
+                Check.same("4: " + what + " " + answer, Languages.mixed().tell(2, what, answer) ? 1 : 0, before);
                 Check.no("4: a first " + what + " " + answer, Languages.mixed().tell(3, what, answer));
                 Check.no("4: of a revoked one, " + what + " " + answer, Languages.mixed().tell(4, what, answer));
             }
@@ -129,7 +129,8 @@ public final class RefusedTest {
         }
         for (int rights : new int[] {-1, 8, LEAST, MOST}) {
             Refused.call("6: rights " + rights, ARGUMENT, Languages::mixed, row -> row.define(0, 3, 33, rights));
-            Refused.call("6: revoked, rights " + rights, ARGUMENT, Languages::mixed, row -> row.define(4, 3, 33, rights));
+            Refused.call("6: revoked, rights " + rights, ARGUMENT, Languages::mixed,
+                    row -> row.define(4, 3, 33, rights));
         }
         for (int key : new int[] {0, 19}) {
             for (int value : new int[] {-9999, 9999}) {
@@ -147,7 +148,8 @@ public final class RefusedTest {
     private static void set() {
         for (int object : NO_OBJECTS) {
             Refused.call("7: object " + object, INDEX, Languages::mixed, row -> row.set(object, 5, 1));
-            Refused.call("7: object " + object + " and more", INDEX, Languages::mixed, row -> row.set(object, 20, 10000));
+            Refused.call("7: object " + object + " and more", INDEX, Languages::mixed,
+                    row -> row.set(object, 20, 10000));
         }
         for (int key : NO_KEYS) {
             Refused.call("7: key " + key, INDEX, Languages::mixed, row -> row.set(0, key, 1));
@@ -181,7 +183,8 @@ public final class RefusedTest {
             for (int object : new int[] {0, 2, 4, 5}) {
                 Refused.call("8: key " + key + " of " + object, INDEX, Languages::mixed, row -> row.get(object, key));
                 Refused.call("9: key " + key + " of " + object, INDEX, Languages::mixed, row -> row.has(object, key));
-                Refused.call("10: key " + key + " of " + object, INDEX, Languages::mixed, row -> row.delete(object, key));
+                Refused.call("10: key " + key + " of " + object, INDEX, Languages::mixed,
+                        row -> row.delete(object, key));
             }
         }
         Refused.call("8: revoked", FAULT, Languages::mixed, row -> row.get(4, 3));
@@ -291,7 +294,8 @@ public final class RefusedTest {
         }
         for (char letter : "VaEGSP? \u0000\u0176\uffff".toCharArray()) {
             Refused.call("17: letter " + (int) letter, ARGUMENT, Languages::mixed, row -> row.add(0, letter, 0, 0, 0));
-            Refused.call("17: 16, letter " + (int) letter, ARGUMENT, Languages::full, row -> row.add(3, letter, 0, 0, 0));
+            Refused.call("17: 16, letter " + (int) letter, ARGUMENT, Languages::full,
+                    row -> row.add(3, letter, 0, 0, 0));
             Refused.call("17: a turn, letter " + (int) letter, ARGUMENT, Languages::turned,
                     row -> row.add(0, letter, 0, 0, 0));
         }

@@ -1,3 +1,8 @@
+import java.util.ArrayList;
+import java.util.Arrays;
+import java.util.Comparator;
+import java.util.List;
+
 /** The boundaries that the document names under 'Tasks and time', and those of promises 18 to 32. */
 public final class TurnEdgesTest {
     public static void main(String[] args) {
@@ -13,6 +18,8 @@ public final class TurnEdgesTest {
         delaysOfAllInts();
         delaysFromTheTimeOn();
         timersOfOneTime();
+        timersOfOneTimeInAllOrders();
+        timersInAllOrders();
         timersThatWait();
         oneTimerEachTurn();
         lookedAtInTheirOrder();
@@ -36,17 +43,6 @@ public final class TurnEdgesTest {
         meansOfTurns();
         soundAllTheTime();
         Check.end();
-    }
-
-    private static EventloopRow with(String... texts) {
-        EventloopRow row = new EventloopRow();
-        for (int i = 0; i < texts.length; i++) {
-            row.addFunction();
-        }
-        for (int i = 0; i < texts.length; i++) {
-            Code.fill(row, i, texts[i]);
-        }
-        return row;
     }
 
     /** Creates a language without objects and functions, at the time 0. */
@@ -76,7 +72,7 @@ public final class TurnEdgesTest {
     /** 30 tasks can be added, whether they wait or not. */
     private static void mostTasks() {
         for (int turns = 0; turns <= 10; turns += 5) {
-            EventloopRow row = with("v 0 4; l 0");
+            EventloopRow row = Code.language("v 0 4; l 0");
             for (int i = 0; i < 15; i++) {
                 row.post(0);
             }
@@ -98,7 +94,7 @@ public final class TurnEdgesTest {
 
     /** Returns the number of tasks that wait. */
     private static void tasksThatWait() {
-        EventloopRow row = with("t 3 1", "");
+        EventloopRow row = Code.language("t 3 1", "");
         Check.same("one", row.post(0), 1);
         Check.same("two", row.post(1), 2);
         row.turn(1);
@@ -111,7 +107,7 @@ public final class TurnEdgesTest {
     private static void turnsThatAreDone() {
         for (int turns = 1; turns <= 10; turns++) {
             for (int tasks = turns - 1; tasks <= turns + 1; tasks++) {
-                EventloopRow row = with("l 0");
+                EventloopRow row = Code.language("l 0");
                 for (int i = 0; i < tasks; i++) {
                     row.post(0);
                 }
@@ -120,14 +116,14 @@ public final class TurnEdgesTest {
                 Check.same("those that are left", row.turn(10), Math.max(0, tasks - turns));
             }
         }
-        EventloopRow row = with("t 3 0");
+        EventloopRow row = Code.language("t 3 0");
         row.post(0);
         Check.same("a timer that is set in a turn", row.turn(10), 10);
         Check.same("one waits", row.timers(), 1);
     }
 
     private static void turnsWithoutWork() {
-        EventloopRow row = with("p 0; w 0");
+        EventloopRow row = Code.language("p 0; w 0");
         Check.same("no task", row.turn(1), 0);
         Check.same("so functions can be added", row.addFunction(), 1);
         row.post(0);
@@ -138,7 +134,7 @@ public final class TurnEdgesTest {
 
     /** If there is a task, the first one runs; otherwise, if there is a timer. */
     private static void tasksAheadOfTimers() {
-        EventloopRow row = with("v 0 1; l 0; t 3 2", "v 0 2; l 0", "v 0 3; l 0");
+        EventloopRow row = Code.language("v 0 1; l 0; t 3 2", "v 0 2; l 0", "v 0 3; l 0");
         row.post(0);
         row.post(1);
         row.turn(1);
@@ -146,7 +142,7 @@ public final class TurnEdgesTest {
         Check.same("time", row.time(), 0);
         row.turn(10);
         Code.traces("tasks first, in their order", row, 1, 2, 2, 3);
-        row = with("v 0 7; t 0 1", "v 0 2; l 0", "v 0 3; l 0; v 0 2; t 0 1");
+        row = Code.language("v 0 7; t 0 1", "v 0 2; l 0", "v 0 3; l 0; v 0 2; t 0 1");
         row.post(0);
         row.turn(2);
         row.post(2);
@@ -158,7 +154,8 @@ public final class TurnEdgesTest {
 
     /** Then jobs run until there is none, ahead of the next task. */
     private static void jobsWithinTheTurn() {
-        EventloopRow row = with("q 0 1; v 0 1; l 0", "v 0 2; l 0; q 0 2", "v 0 3; l 0; w 0; v 0 4; l 0", "v 0 9; l 0");
+        EventloopRow row = Code.language("q 0 1; v 0 1; l 0", "v 0 2; l 0; q 0 2",
+                "v 0 3; l 0; w 0; v 0 4; l 0", "v 0 9; l 0");
         row.post(0);
         row.post(3);
         row.turn(1);
@@ -179,7 +176,7 @@ public final class TurnEdgesTest {
     private static void delays() {
         for (int delay : new int[] {-9999, -1, 0, 1, 2, 9998, 9999, 10000, 10001, 19998}) {
             int first = Math.min(9999, delay);
-            EventloopRow row = with("v 0 " + first + "; v 1 " + (delay - first) + "; + 0 1; t 0 1", "l 0");
+            EventloopRow row = Code.language("v 0 " + first + "; v 1 " + (delay - first) + "; + 0 1; t 0 1", "l 0");
             row.post(0);
             row.turn(1);
             Check.same("a timer of " + delay, row.timers(), 1);
@@ -190,22 +187,22 @@ public final class TurnEdgesTest {
     }
 
     private static void delaysOfAllInts() {
-        String most = "v 0 8192; v 1 -17; v 2 1; z 1 7; + 0 0; + 1 2; j 0 3; v 1 -1; + 1 0; + 0 1;";
-        EventloopRow row = with(most + "t 0 1", "");
+        String most = Code.twoTo(30) + "v 1 -1; + 1 0; + 0 1;";
+        EventloopRow row = Code.language(most + "t 0 1", "");
         row.post(0);
         row.turn(2);
         Check.same("the most int", row.time(), 9999);
         row.post(0);
         row.turn(2);
         Check.same("the most int, from there", row.time(), 2 * 9999);
-        row = with(most + "+ 0 2; t 0 1", "");
+        row = Code.language(most + "+ 0 2; t 0 1", "");
         row.post(0);
         row.turn(2);
         Check.same("the least int", row.time(), 0);
     }
 
     private static void delaysFromTheTimeOn() {
-        EventloopRow row = with("v 0 9999; t 0 0");
+        EventloopRow row = Code.language("v 0 9999; t 0 0");
         row.post(0);
         row.turn(1);
         for (int i = 1; i <= 400; i++) {
@@ -216,31 +213,83 @@ public final class TurnEdgesTest {
 
     /** The earliest one, of several that were set the first one. */
     private static void timersOfOneTime() {
-        EventloopRow row = with("v 0 5; t 0 1; t 0 2; v 0 4; t 0 3; t 0 2; t 0 1; v 0 5; t 0 3; t 0 1",
+        EventloopRow row = Code.language("v 0 5; t 0 1; t 0 2; v 0 4; t 0 3; t 0 2; t 0 1; v 0 5; t 0 3; t 0 1",
                 "v 0 1; l 0", "v 0 2; l 0", "v 0 3; l 0");
         row.post(0);
         row.turn(10);
         Code.traces("4 ahead of 5", row, 3, 2, 1, 1, 2, 3, 1);
-        row = with("v 0 5; t 0 1; t 0 2", "v 0 1; l 0; t 3 3", "v 0 2; l 0", "v 0 3; l 0");
+        row = Code.language("v 0 5; t 0 1; t 0 2", "v 0 1; l 0; t 3 3", "v 0 2; l 0", "v 0 3; l 0");
         row.post(0);
         row.turn(10);
         Code.traces("one that is set for now is behind those that wait for now", row, 1, 2, 3);
         Check.same("all at one time", row.time(), 5);
-        row = with("v 0 5; t 0 1; v 0 2; t 0 2", "v 0 1; l 0", "v 0 2; l 0; v 0 3; t 0 3", "v 0 3; l 0");
+        row = Code.language("v 0 5; t 0 1; v 0 2; t 0 2", "v 0 1; l 0", "v 0 2; l 0; v 0 3; t 0 3", "v 0 3; l 0");
         row.post(0);
         row.turn(10);
         Code.traces("one of a time that was set earlier", row, 2, 1, 3);
     }
 
+    /** Sets a timer for each of the delays, and looks at the order in which they run: as a list that keeps order sorts. */
+    private static void timersRun(int[] delays) {
+        EventloopRow row = new EventloopRow();
+        row.addFunction();
+        List<Integer> due = new ArrayList<>();
+        for (int i = 0; i < delays.length; i++) {
+            row.add(0, 'v', 0, delays[i], 0);
+            row.add(0, 't', 0, row.addFunction(), 0);
+            row.add(i + 1, 'v', 0, i, 0);
+            row.add(i + 1, 'l', 0, 0, 0);
+            due.add(i);
+        }
+        due.sort(Comparator.comparing(i -> delays[i]));
+        row.post(0);
+        row.turn(10);
+        String what = "timers of " + Arrays.toString(delays);
+        for (int i = 0; i < delays.length; i++) {
+            Check.same(what, row.traceAt(i), due.get(i));
+        }
+        Check.same(what, row.timers(), 0);
+    }
+
+    private static void timersOfOneTimeInAllOrders() {
+        for (int which = 0; which < 2187; which++) {
+            int[] delays = new int[7];
+            for (int i = 0, rest = which; i < 7; i++, rest /= 3) {
+                delays[i] = rest % 3;
+            }
+            timersRun(delays);
+        }
+    }
+
+    private static void timersInAllOrders() {
+        for (int count = 1; count <= 7; count++) {
+            timersInAllOrders(new int[count], 0);
+        }
+    }
+
+    private static void timersInAllOrders(int[] delays, int set) {
+        if (set == delays.length) {
+            timersRun(delays);
+            return;
+        }
+        for (int i = 0; i < delays.length; i++) {
+            if (delays[i] == 0) {
+                delays[i] = set + 1;
+                timersInAllOrders(delays, set + 1);
+                delays[i] = 0;
+            }
+        }
+    }
+
     /** Returns the number of timers. */
     private static void timersThatWait() {
-        EventloopRow row = with("t 0 1; t 0 1; t 0 1", "");
+        EventloopRow row = Code.language("t 0 1; t 0 1; t 0 1", "");
         row.post(0);
         for (int due : new int[] {3, 2, 1, 0, 0}) {
             row.turn(1);
             Check.same("timers", row.timers(), due);
         }
-        EventloopRow all = with("t 0 1; j 0 0", "");
+        EventloopRow all = Code.language("t 0 1; j 0 0", "");
         for (int i = 1; i <= 30; i++) {
             all.post(0);
             all.turn(1);
@@ -249,7 +298,7 @@ public final class TurnEdgesTest {
     }
 
     private static void oneTimerEachTurn() {
-        EventloopRow row = with("v 0 3; t 0 1; t 0 1; v 0 4; t 0 1", "v 0 1; l 0");
+        EventloopRow row = Code.language("v 0 3; t 0 1; t 0 1; v 0 4; t 0 1", "v 0 1; l 0");
         row.post(0);
         row.turn(1);
         for (int turn = 1; turn <= 3; turn++) {
@@ -263,8 +312,8 @@ public final class TurnEdgesTest {
 
     /** Each promise that was rejected since the last look, in this order. */
     private static void lookedAtInTheirOrder() {
-        EventloopRow row = with("p 0; p 1; p 2; v 3 5; X 2 3; X 0 3; X 1 3; l 3", "p 0; p 1; v 3 5; q 0 2; X 1 3; R 0 0",
-                "p 0; v 3 1; X 0 3; p 0");
+        EventloopRow row = Code.language("p 0; p 1; p 2; v 3 5; X 2 3; X 0 3; X 1 3; l 3",
+                "p 0; p 1; v 3 5; q 0 2; X 1 3; R 0 0", "p 0; v 3 1; X 0 3; p 0");
         row.post(0);
         row.turn(1);
         Code.traces("as they were rejected", row, 5, 30002, 30000, 30001);
@@ -276,7 +325,7 @@ public final class TurnEdgesTest {
     }
 
     private static void lookedAtOnce() {
-        EventloopRow row = with("p 0; v 3 5; X 0 3", "");
+        EventloopRow row = Code.language("p 0; v 3 5; X 0 3", "");
         row.post(0);
         row.post(1);
         row.post(1);
@@ -318,7 +367,7 @@ public final class TurnEdgesTest {
 
     /** No register holds a promise of an earlier turn, so nothing is handled late. */
     private static void noneIsLate() {
-        EventloopRow row = with("p 0; v 3 5; X 0 3; t 3 1; q 0 1", "p 0; v 3 5; X 0 3; w 3; h 0 -1 -1; w 0");
+        EventloopRow row = Code.language("p 0; v 3 5; X 0 3; t 3 1; q 0 1", "p 0; v 3 5; X 0 3; w 3; h 0 -1 -1; w 0");
         for (int i = 0; i < 12; i++) {
             row.post(i % 2);
             row.turn(2);
@@ -387,10 +436,11 @@ public final class TurnEdgesTest {
         row = Code.turned("b 0 2; c 3 1; l 0", of(297) + "T 3");
         Code.traces("in a call", row, 99999, 30000);
         Check.sign("in a call", row.stateOf(0), 'r');
-        row = Code.turned("c 3 1", "b 0 13; v 0 -48; v 1 1; z 0 9; e; e; e; + 0 1; j 0 3; v 0 2; v 0 3; b 0 13; T 0; l 0");
+        String handled = "b 0 13; v 0 -48; v 1 1; z 0 9; e; e; e; + 0 1; j 0 3; v 0 2; v 0 3; b 0 13; T 0; l 0";
+        row = Code.turned("c 3 1", handled);
         // 1 + 3 + 48 * 6 + 1 + 4 = 297
         Check.same("the handler still goes on", row.traceAt(0), 3);
-        row = Code.turned("e; e; e; c 3 1", "b 0 13; v 0 -48; v 1 1; z 0 9; e; e; e; + 0 1; j 0 3; v 0 2; v 0 3; b 0 13; T 0; l 0");
+        row = Code.turned("e; e; e; c 3 1", handled);
         Code.traces("the handler is one too many", row, 99999);
         Check.sign("the called one ends without anything", row.stateOf(0), 'w');
     }
@@ -416,14 +466,14 @@ public final class TurnEdgesTest {
 
     /** Each turn has 300 of its own. */
     private static void theNextTurnAgain() {
-        EventloopRow row = with(of(300), of(301), "j 0 0");
+        EventloopRow row = Code.language(of(300), of(301), "j 0 0");
         for (int function : new int[] {0, 0, 1, 2, 0}) {
             row.post(function);
         }
         Check.same("a turn that stops is done too", row.turn(10), 5);
         Code.traces("two of five stop", row, 99999, 99999);
         Check.number("300 each", row.meanInstructions(), 300);
-        row = with("t 0 1; t 0 1; j 0 2", "v 0 1; l 0");
+        row = Code.language("t 0 1; t 0 1; j 0 2", "v 0 1; l 0");
         row.post(0);
         row.turn(1);
         Check.same("timers are not dropped", row.timers(), 2);
@@ -441,7 +491,8 @@ public final class TurnEdgesTest {
         String[] jobs = {"q 0 1", "h 0 1 1", "h 0 -1 -1", "p 2; R 2 0", "A 2 0 1", "c 2 2"};
         for (char letter : new char[] {'R', 'X'}) {
             for (String job : jobs) {
-                EventloopRow row = with(forEver("p 0; m 1 0; v 3 5; " + letter + " 0 3; " + job), "l 3", "w 3; l 3", "");
+                String text = forEver("p 0; m 1 0; v 3 5; " + letter + " 0 3; " + job);
+                EventloopRow row = Code.language(text, "l 3", "w 3; l 3", "");
                 row.post(0);
                 row.turn(1);
                 Check.same("dropped: " + job, row.traceAt(0), 99999);
@@ -455,7 +506,7 @@ public final class TurnEdgesTest {
                 }
             }
         }
-        EventloopRow row = with("q 0 1; j 0 1", "v 0 2; l 0", "q 0 1; q 0 1");
+        EventloopRow row = Code.language("q 0 1; j 0 1", "v 0 2; l 0", "q 0 1; q 0 1");
         row.post(0);
         row.post(2);
         row.turn(2);
@@ -478,7 +529,7 @@ public final class TurnEdgesTest {
 
     /** Rejections are looked at all the same. */
     private static void rejectionsAllTheSame() {
-        EventloopRow row = with("p 0; v 1 1; X 0 1; p 0; X 0 1; h 0 -1 -1; j 0 6", "");
+        EventloopRow row = Code.language("p 0; v 1 1; X 0 1; p 0; X 0 1; h 0 -1 -1; j 0 6", "");
         row.post(0);
         row.post(1);
         row.turn(1);
@@ -492,8 +543,8 @@ public final class TurnEdgesTest {
 
     /** A language that has traced so many numbers; its functions 2 to 5 trace one more each, in a way of their own. */
     private static EventloopRow afterTraced(int count) {
-        EventloopRow row = with("v 0 -50; v 1 1; z 0 6; l 1; + 0 1; j 0 2", "v 0 7;" + "l 0;".repeat(15), "v 0 8; l 0",
-                "v 0 9; T 0", "p 0; v 1 1; X 0 1", "j 0 0");
+        EventloopRow row = Code.language("v 0 -50; v 1 1; z 0 6; l 1; + 0 1; j 0 2",
+                "v 0 7;" + "l 0;".repeat(15), "v 0 8; l 0", "v 0 9; T 0", "p 0; v 1 1; X 0 1", "j 0 0");
         for (int left = count; left > 0;) {
             int function = left >= 50 ? 0 : left >= 15 ? 1 : 2;
             row.post(function);
@@ -538,7 +589,7 @@ public final class TurnEdgesTest {
             }
             Check.same(what + ": not handled", row.unhandled(), function == 4 ? 2 : 0);
         }
-        EventloopRow row = with("t 3 0; v 0 7; l 0; j 0 2");
+        EventloopRow row = Code.language("t 3 0; v 0 7; l 0; j 0 2");
         row.post(0);
         for (int i = 0; i < 45; i++) {
             row.turn(10);
@@ -560,7 +611,7 @@ public final class TurnEdgesTest {
         Check.same("R with a promise", Code.turned("p 0; v 1 2; R 0 1; p 1; R 1 0").jobs(), 2);
         Check.same("no job of a task, a call, a timer", Code.turned("c 0 1; t 3 1", "").jobs(), 0);
         Check.same("no job of a reaction that waits", Code.turned("p 0; h 0 -1 -1; w 0").jobs(), 0);
-        EventloopRow row = with("q 0 1", "");
+        EventloopRow row = Code.language("q 0 1", "");
         row.post(0);
         row.post(0);
         row.turn(1);
@@ -571,7 +622,7 @@ public final class TurnEdgesTest {
 
     /** Their number divided by that of all promises, both converted to float. */
     private static void sharesThatWait() {
-        EventloopRow row = with("p 0", "p 0; v 1 4; R 0 1", "p 0; v 1 4; X 0 1", "p 0; p 0");
+        EventloopRow row = Code.language("p 0", "p 0; v 1 4; R 0 1", "p 0; v 1 4; X 0 1", "p 0; p 0");
         int waiting = 0;
         for (int all = 1; all <= 30; all++) {
             row.post(all % 3);
@@ -581,13 +632,13 @@ public final class TurnEdgesTest {
         }
         Check.number("all", Code.turned("p 0; R 3 0").waitingShare(), 1);
         Check.number("none", Code.turned("c 0 1", "").waitingShare(), 0);
-        Check.number("one that was resolved and waits", Code.turned("p 0; p 1; R 0 1; v 2 1; p 3; R 3 2").waitingShare(),
-                2f / 3f);
+        Check.number("one that was resolved and waits",
+                Code.turned("p 0; p 1; R 0 1; v 2 1; p 3; R 3 2").waitingShare(), 2f / 3f);
     }
 
     /** The number of all instructions that were carried out divided by that of turns, both converted to double. */
     private static void meansOfTurns() {
-        EventloopRow row = with("e", "e; e; T 0; e", "g 0 0 0; e", "z 0 2; e; e", "x 0; e", "w 0; w 0; e", "");
+        EventloopRow row = Code.language("e", "e; e; T 0; e", "g 0 0 0; e", "z 0 2; e; e", "x 0; e", "w 0; w 0; e", "");
         int all = 0;
         int[] due = {1, 3, 1, 2, 1, 3, 0};
         for (int turn = 0; turn < 28; turn++) {
@@ -599,7 +650,8 @@ public final class TurnEdgesTest {
     }
 
     private static void soundAllTheTime() {
-        EventloopRow row = with("p 0; h 0 1 1; A 1 0 1; w 1", "e", "p 0; v 1 1; R 0 1; h 0 1 1; A 2 0 2; j 0 5", "j 0 0");
+        EventloopRow row = Code.language("p 0; h 0 1 1; A 1 0 1; w 1", "e",
+                "p 0; v 1 1; R 0 1; h 0 1 1; A 2 0 2; j 0 5", "j 0 0");
         Check.yes("new", row.isSound());
         row.addObject(-1);
         for (int key = 19; key >= 0; key--) {

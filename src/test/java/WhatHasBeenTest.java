@@ -90,8 +90,10 @@ public final class WhatHasBeenTest {
         int last = row.time();
         for (int i = 0; i < set / 10; i++) {
             Check.same("21: ten turns", row.turn(10), 10);
-            Check.yes("20: the time does not go back", row.time() >= last);
-            last = row.time();
+            if (i % 20 == 0) {
+                Check.yes("20: the time does not go back", row.time() >= last);
+                last = row.time();
+            }
         }
         Check.same("21: those that are left", row.timers(), set % 10);
         Check.same("22: each has traced", row.traced() - before, set - set % 10);
@@ -100,13 +102,19 @@ public final class WhatHasBeenTest {
 
     /** Timers that are set with falling, rising and equal delays run in the order of the model. */
     private static void timersInOrder() {
+        for (int step = 1; step <= 20; step++) {
+            timersInOrder(step);
+        }
+    }
+
+    private static void timersInOrder(int step) {
         EventloopRow row = new EventloopRow();
         Model model = new Model();
         String[] functions = {
-            "v 0 9000; v 1 -137; t 0 3; + 0 1; t 0 4; + 0 1; t 0 5; + 0 1; t 0 6; + 0 1; j 0 2",
-            "v 0 11; v 1 401; t 0 3; + 0 1; t 0 4; + 0 1; t 0 5; + 0 1; t 0 6; + 0 1; j 0 2",
+            "v 0 9000; v 1 " + (7 - 20 * step) + "; t 0 3; + 0 1; t 0 4; + 0 1; t 0 5; + 0 1; t 0 6; + 0 1; j 0 2",
+            "v 0 11; v 1 " + (31 * step % 71) + "; t 0 3; + 0 1; t 0 4; + 0 1; t 0 5; + 0 1; t 0 6; + 0 1; j 0 2",
             "v 0 5000; v 1 -71; t 0 3; + 0 1; t 0 4; + 0 1; t 1 5; + 1 1; j 0 2",
-            "v 0 3; l 0", "v 0 4; l 0", "v 0 5; l 0; v 0 33; t 0 6", "v 0 6; l 0"};
+            "v 0 3; l 0", "v 0 4; l 0", "v 0 5; l 0; v 0 " + step % 7 + "; t 0 6", "v 0 6; l 0"};
         for (int i = 0; i < functions.length; i++) {
             Code.function(row, functions[i]);
             model.addFunction();
@@ -115,16 +123,16 @@ public final class WhatHasBeenTest {
                 model.add(i, words[0].charAt(0), Integer.parseInt(words[1]), Integer.parseInt(words[2]), 0);
             }
         }
-        for (int function : new int[] {0, 1, 2, 1}) {
+        for (int function : new int[] {0, 1, step % 3, 1}) {
             row.post(function);
             model.post(function);
         }
-        for (int i = 0; i < 500; i++) {
-            Check.same("21: turn " + i, row.turn(1), model.turn(1));
+        for (int i = 0; i < 45; i++) {
+            Check.same("21: turns " + i, row.turn(10), model.turn(10));
             Check.same("20: time " + i, row.time(), model.time());
             Check.same("21: timers " + i, row.timers(), model.timers());
         }
-        for (int i = 0; i < 400; i++) {
+        for (int i = 100; i < 400; i++) {
             Check.same("20: the order, traceAt(" + i + ")", row.traceAt(i), model.traceAt(i));
         }
     }
@@ -193,7 +201,8 @@ public final class WhatHasBeenTest {
     }
 
     private static void unhandled() {
-        EventloopRow row = Code.turned("v 3 5; p 0; p 1; p 2; X 2 3; X 0 3; X 1 3; h 0 -1 -1; c 0 1; p 0; R 0 1", "T 0");
+        EventloopRow row = Code.turned("v 3 5; p 0; p 1; p 2; X 2 3; X 0 3; X 1 3; h 0 -1 -1; c 0 1; p 0; R 0 1",
+                "T 0");
         // 3 is of h, 4 is of c, 5 follows 1.
         Code.traces("27: in the order of rejections", row, 30002, 30004, 30003, 30005);
         Check.same("27", row.unhandled(), 4);
@@ -211,7 +220,8 @@ public final class WhatHasBeenTest {
      * gets a reaction behind the look at which it was told.
      */
     private static void late() {
-        EventloopRow row = Code.turned("v 3 5; p 0; X 0 3; q 0 0; v 1 1; t 1 1", "v 3 5; p 0; X 0 3; w 3; h 0 -1 -1; w 0");
+        EventloopRow row = Code.turned("v 3 5; p 0; X 0 3; q 0 0; v 1 1; t 1 1",
+                "v 3 5; p 0; X 0 3; w 3; h 0 -1 -1; w 0");
         Check.same("28: told at the end of the turn", row.late(), 0);
         row.post(0);
         row.post(1);

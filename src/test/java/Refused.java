@@ -124,8 +124,8 @@ final class Refused {
     }
 
     private static void tasks(EventloopRow row, StringBuilder answers) {
-        for (int i = 0; i < 31; i++) {
-            int function = i % 3;
+        for (int i = 0; i < 40; i++) {
+            int function = i < 9 ? i : i % 3;
             note(answers, () -> row.post(function));
         }
         for (int i = 0; i < 40; i++) {

@@ -229,7 +229,7 @@ public final class TurnEdgesTest {
         Code.traces("one of a time that was set earlier", row, 2, 1, 3);
     }
 
-    /** Sets a timer for each of the delays, and looks at the order in which they run: as a list that keeps order sorts. */
+    /** Sets a timer for each of the delays, and looks at their order: as a list that keeps order sorts. */
     private static void timersRun(int[] delays) {
         EventloopRow row = new EventloopRow();
         row.addFunction();
